@@ -1,51 +1,5 @@
 /** Promise by promise: ordinary inputs, the edges that the document names, and wrong inputs; worked out by hand. */
-public final class PromisesTest {
-    private static final int NONE = -1, BAD = -2, NOT = -3, FULL = -4;
-    private static final int NULL = -11, INDEX = -12, CAST = -13, STORE = -14, SIZE = -15;
-    private static final int NO_NUMBER = -1002, NO_ITEM = Integer.MIN_VALUE;
-    private static final long NO_LONG = Long.MIN_VALUE + 2;
-    private static final int[] FAR_OUT = {Integer.MIN_VALUE, Integer.MAX_VALUE};
-
-    private static int promise;
-    private static int wrong;
-    private static int checks;
-
-    private static void due(String what, long got, long want) {
-        checks++;
-        if (got != want) {
-            wrong++;
-            System.out.println("promise " + promise + ": " + what + " answered " + got + ", due is " + want);
-        }
-    }
-
-    private static void typed(TuneLoans x, int text, String bytes) {
-        for (int k = 0; k < bytes.length(); k++) x.type(text, bytes.charAt(k));
-    }
-
-    private static TuneLoans bank(String tunes, String borrowers) {
-        TuneLoans x = new TuneLoans();
-        typed(x, 0, tunes);
-        typed(x, 1, borrowers);
-        return x;
-    }
-
-    /** A sheet of a form with such items. */
-    private static void laid(TuneLoans x, int s, int form, int... items) {
-        x.sheet(s, form, items.length);
-        for (int i = 0; i < items.length; i++) x.lay(s, form, i, items[i]);
-    }
-
-    private static void items(String what, TuneLoans x, int s, int form, int... want) {
-        for (int i = 0; i < want.length; i++) due(what + ", item " + i, x.get(s, form, i), want[i]);
-        due(what + ", behind the last", x.get(s, form, want.length), NO_ITEM);
-    }
-
-    private static void notes(String what, TuneLoans x, int year, int tune, String want) {
-        due(what + ", how many", x.notes(year, tune, NONE), want.length());
-        for (int i = 0; i < want.length(); i++) due(what + ", note " + i, x.notes(year, tune, i), want.charAt(i) - 'a');
-        if (want.length() < 40) due(what + ", behind the last", x.notes(year, tune, want.length()), NONE);
-    }
-
+public final class PromisesTest extends Checks {
     private static void promise1() {
         TuneLoans x = new TuneLoans();
         int[] counts = {0, 0, 0, 0, 0, 0, 2, 0, 0};
@@ -854,28 +808,6 @@ public final class PromisesTest {
         due("the latest", x.count(8), 5);
     }
 
-    private static long digestByCalls(TuneLoans x) {
-        long h = 17;
-        for (int k = 0; k <= 7; k++) h = 31 * h + x.count(k);
-        for (int k = 0; k <= 1; k++) h = 31 * h + x.fault(k);
-        for (int it = 0; it < x.count(0); it++) {
-            long[] of = {x.tune(it, -1), x.notes(5, it, -1), x.notes(39, it, -1), x.notes(5, it, 2), x.has(5, it),
-                x.lend(it, 9, -1), x.lend(it, 9, 0), x.longest(it, 3, -1), x.longest(it, 3, 0), x.who(0, it, 0),
-                x.who(0, it, 1), x.far(0, it), x.nearest(it), x.mothers(it), x.tells(it, 0), x.tells(it, 1),
-                x.fair(7, 9, it), x.hums(5, it, 0, 4, 9, 0), x.hums(5, it, 0, 4, 9, 1)};
-            for (long v : of) h = 31 * h + v;
-        }
-        for (int it = 0; it < x.count(1); it++) {
-            for (int k = 0; k <= 2; k++) h = 31 * h + x.borrower(it, k);
-        }
-        for (int it = 0; it < x.count(4); it++) {
-            for (int k = 0; k <= 2; k++) h = 31 * h + x.came(it, k);
-        }
-        long[] last = {x.interest(0), x.interest(9), x.interest(39), x.home(3), x.loses(9), x.best(1)};
-        for (long v : last) h = 31 * h + v;
-        return h;
-    }
-
     /** A bank with loans in its first years, and one at the end. */
     private static TuneLoans anyBank(java.util.Random random) {
         StringBuilder tunes = new StringBuilder();
@@ -922,51 +854,50 @@ public final class PromisesTest {
     }
 
     private static void first18() {
-        promise = 1; promise1();
-        promise = 2; promise2();
-        promise = 3; promise3();
-        promise = 4; promise4();
-        promise = 5; promise5();
-        promise = 6; promise6();
-        promise = 7; promise7();
-        promise = 8; promise8();
-        promise = 9; promise9();
-        promise = 10; promise10();
-        promise = 11; promise11();
-        promise = 12; promise12();
-        promise = 13; promise13();
-        promise = 14; promise14();
-        promise = 15; promise15();
-        promise = 16; promise16();
-        promise = 17; promise17();
-        promise = 18; promise18();
+        place = "promise 1"; promise1();
+        place = "promise 2"; promise2();
+        place = "promise 3"; promise3();
+        place = "promise 4"; promise4();
+        place = "promise 5"; promise5();
+        place = "promise 6"; promise6();
+        place = "promise 7"; promise7();
+        place = "promise 8"; promise8();
+        place = "promise 9"; promise9();
+        place = "promise 10"; promise10();
+        place = "promise 11"; promise11();
+        place = "promise 12"; promise12();
+        place = "promise 13"; promise13();
+        place = "promise 14"; promise14();
+        place = "promise 15"; promise15();
+        place = "promise 16"; promise16();
+        place = "promise 17"; promise17();
+        place = "promise 18"; promise18();
     }
 
     private static void last18() {
-        promise = 19; promise19();
-        promise = 20; promise20();
-        promise = 21; promise21();
-        promise = 22; promise22();
-        promise = 23; promise23();
-        promise = 24; promise24();
-        promise = 25; promise25();
-        promise = 26; promise26();
-        promise = 27; promise27();
-        promise = 28; promise28();
-        promise = 29; promise29();
-        promise = 30; promise30();
-        promise = 31; promise31();
-        promise = 32; promise32();
-        promise = 33; promise33();
-        promise = 34; promise34();
-        promise = 35; promise35();
-        promise = 36; promise36();
+        place = "promise 19"; promise19();
+        place = "promise 20"; promise20();
+        place = "promise 21"; promise21();
+        place = "promise 22"; promise22();
+        place = "promise 23"; promise23();
+        place = "promise 24"; promise24();
+        place = "promise 25"; promise25();
+        place = "promise 26"; promise26();
+        place = "promise 27"; promise27();
+        place = "promise 28"; promise28();
+        place = "promise 29"; promise29();
+        place = "promise 30"; promise30();
+        place = "promise 31"; promise31();
+        place = "promise 32"; promise32();
+        place = "promise 33"; promise33();
+        place = "promise 34"; promise34();
+        place = "promise 35"; promise35();
+        place = "promise 36"; promise36();
     }
 
     public static void main(String[] args) {
         first18();
         last18();
-        System.out.println(promise + " promises, " + checks + " checks, " + wrong + " not as due");
-        if (wrong != 0) System.exit(1);
+        end("36 promises");
     }
 }
