@@ -196,6 +196,21 @@ final class SaysOfLoans extends Checks {
         due("so the next does not", x.came(1, 0), 0);
     }
 
+    @Says("In a YEAR first LOANS of that YEAR are looked at, as told: one counts, if there are such")
+    static void ofATuneOrToABorrowerThatWentNoneCounts() {
+        TuneLoans x = bank("a;b", "g-g;a+b");
+        x.loan(0, 1, 0, 1);
+        x.loan(0, 0, 1, 1);
+        due("both count", x.count(5), 2);
+        x.undo(0);
+        x.undo(0);
+        due("the tune went", x.came(0, 0), 0);
+        due("the other one is there", x.came(1, 0), 1);
+        for (int k = 0; k < 4; k++) x.undo(1);
+        due("the borrower went", x.came(1, 0), 0);
+        due("none counts", x.count(5), 0);
+    }
+
     @Says("one counts, if there are such, and the TUNE is at the bank.")
     static void oneThatIsOutIsNotLent() {
         TuneLoans x = bank("a;a", "a+b;a+c");

@@ -279,6 +279,49 @@ final class SaysOfRefusals extends Checks {
         }
     }
 
+    /** A number in the digest is the one of its year, and neither of the year before nor of the one behind. */
+    private static void ofJustThatYear(String what, TuneLoans x, int before, int then, int behind) {
+        due(what + " is another one before and behind", then != before && then != behind ? 1 : 0, 1);
+        due("the digest has " + what, x.digest(), digestByCalls(x));
+    }
+
+    @Says(promise = 36, value = "notes(5, it, NONE), notes(39, it, NONE), notes(5, it, 2), has(5, it)")
+    static void itsNotesAreBehindYears5And39() {
+        TuneLoans x = bank("a", "a+b");
+        for (int year : new int[] {5, 6, 39}) x.loan(year, 0, 0, 1);
+        ofJustThatYear("how many behind 5", x, x.notes(4, 0, NONE), x.notes(5, 0, NONE), x.notes(6, 0, NONE));
+        ofJustThatYear("how many behind 39", x, x.notes(38, 0, NONE), x.notes(39, 0, NONE), x.notes(40, 0, NONE));
+        TuneLoans y = bank("abc", "c/d;d/e");
+        y.loan(5, 0, 0, 1);
+        y.loan(6, 0, 1, 1);
+        ofJustThatYear("the third behind 5", y, y.notes(4, 0, 2), y.notes(5, 0, 2), y.notes(6, 0, 2));
+        ofJustThatYear("the third, not its neighbours", y, y.notes(5, 0, 1), y.notes(5, 0, 2), y.notes(5, 0, 3));
+        TuneLoans z = bank("abc", "g-g");
+        z.loan(5, 0, 0, 2);
+        ofJustThatYear("who has it behind 5", z, z.has(4, 0), z.has(5, 0), z.has(6, 0));
+    }
+
+    @Says(promise = 36, value = "interest(0), interest(9), interest(39), home(3), loses(9), best(1); as longs that wrap.")
+    static void itsInterestIsOfYears0And9And39() {
+        TuneLoans x = bank("a", "a+b");
+        for (int year : new int[] {0, 1, 9, 10, 39}) x.loan(year, 0, 0, 1);
+        ofJustThatYear("interest by 0", x, x.interest(-1), x.interest(0), x.interest(1));
+        ofJustThatYear("interest by 9", x, x.interest(8), x.interest(9), x.interest(10));
+        ofJustThatYear("interest by 39", x, x.interest(38), x.interest(39), x.interest(40));
+        ofJustThatYear("home from 3 on", x, x.home(2), x.home(3), x.home(4));
+    }
+
+    @Says(promise = 36, value = "hums(5, it, 0, 4, 9), above, below (as it is told);")
+    static void itsChanceIsOfNineNotes() {
+        TuneLoans x = bank("accccccc;acccccccc;accccccccc;acccc;accc", "a+b");
+        due("of eight notes it needs one", x.hums(5, 0, 0, 4, 9, 1), 65536);
+        due("of nine it needs none", x.hums(5, 1, 0, 4, 9, 1), 1);
+        due("of ten none", x.hums(5, 2, 0, 4, 9, 0), 1);
+        due("of five all four", x.hums(5, 3, 0, 4, 9, 0), 625);
+        due("of four four are too few", x.hums(5, 4, 0, 4, 9, 0), 0);
+        due("the digest has them", x.digest(), digestByCalls(x));
+    }
+
     @Says(promise = 36, value = "as longs that wrap.")
     static void itWrapsAsALong() {
         TuneLoans x = new TuneLoans();

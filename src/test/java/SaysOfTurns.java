@@ -54,6 +54,22 @@ final class SaysOfTurns extends Checks {
     }
 
     @Says("TURNS of a TUNE as told: a row of BORROWERS, one behind the other (0 to 3), each HUMS it once.")
+    static void whatWasAskedBeforeHasNoSay() {
+        TuneLoans x = bank("a;aa;b", "a+a");
+        for (int k = 0; k < 2; k++) {
+            longestRow("of the first", x, 0, 2, 0);
+            longestRow("of the second", x, 1, 4, 0);
+            longestRow("of the third", x, 2, 1, 0);
+            who("from the first to the second", x, 0, 1, 1, 1);
+            who("not from the third to the second", x, 2, 1, 0, NONE);
+        }
+        x.wipe(1);
+        typed(x, 1, "b+b");
+        longestRow("of the first by another one", x, 0, 1, 0);
+        longestRow("of the third by another one", x, 2, 2, 0);
+    }
+
+    @Says("TURNS of a TUNE as told: a row of BORROWERS, one behind the other (0 to 3), each HUMS it once.")
     static void fortyNotesInEachTurnAtMost() {
         TuneLoans x = bank("aaaaaaaaaaab;aaaaaaaaaaaa", "a+a;a/c;b+d");
         longestRow("48 would come", x, 0, 40, 0, 0);

@@ -118,6 +118,20 @@ final class SaysOfYears extends Checks {
         }
     }
 
+    @Says("how many NOTES more came back than were lent, also of a BAD one (perhaps fewer; 0: nothing came back by YEAR 39).")
+    static void whatCameBackOnceIsForgottenWithWhatWasUndone() {
+        TuneLoans x = bank("a", "a+b");
+        x.loan(0, 0, 0, 3);
+        due("three more", x.came(0, 2), 3);
+        x.undo(1);
+        due("no borrower: nothing came back", x.came(0, 2), 0);
+        x.type(1, 'b');
+        due("three more again", x.came(0, 2), 3);
+        x.back();
+        x.loan(32, 0, 0, 9);
+        due("another loan, that does not come back", x.came(0, 2), 0);
+    }
+
     // ---- interest
 
     @Says("INTEREST by a YEAR: how many NOTES all TUNES have more than at first (perhaps fewer).")
