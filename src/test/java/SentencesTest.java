@@ -8,7 +8,8 @@ import java.util.HashMap;
 import java.util.List;
 import java.util.Map;
 
-/** Sentence by sentence: for each one that names a boundary a test of its own, with the sentence beside it. */
+/** Sentence by sentence: for each one that names a boundary a test of its own, with the sentence beside it.
+ *  All are run, or those alone whose names, or the names of whose files, are told. */
 public final class SentencesTest extends Checks {
     private static final Path DOCUMENT = Path.of("../shared/DOC.md");
     private static final List<Class<?>> TESTS = List.of(SaysOfTexts.class, SaysOfLoans.class, SaysOfYears.class,
@@ -51,12 +52,16 @@ public final class SentencesTest extends Checks {
         Arrays.fill(BESIDE.get(says.promise()), at, at + says.value().length(), true);
     }
 
-    private static void run(Class<?> part) throws Exception {
+    private static boolean isAsked(Method test, List<String> names) {
+        return names.isEmpty() || names.contains(test.getName()) || names.contains(test.getDeclaringClass().getName());
+    }
+
+    private static void run(Class<?> part, List<String> names) throws Exception {
         List<Method> methods = new ArrayList<>(List.of(part.getDeclaredMethods()));
         methods.sort(Comparator.comparing(Method::getName));
         for (Method test : methods) {
             Says says = test.getAnnotation(Says.class);
-            if (says == null) continue;
+            if (says == null || !isAsked(test, names)) continue;
             tests++;
             says(test, says);
             place = part.getName() + "." + test.getName() + " [" + says.promise() + ": " + says.value() + "]";
@@ -86,8 +91,10 @@ public final class SentencesTest extends Checks {
 
     public static void main(String[] args) throws Exception {
         readDocument();
-        for (Class<?> part : TESTS) run(part);
-        lookForTheRest();
+        for (Class<?> part : TESTS) run(part, List.of(args));
+        if (args.length == 0) lookForTheRest();
+        place = "SentencesTest";
+        due("some test was run", tests > 0 ? 1 : 0, 1);
         end(tests + " tests of sentences");
     }
 }
