@@ -4,7 +4,7 @@ import java.util.List;
 /** "An object is used for at most 512 calls after it has been made": runs as long as that, each on one object, with
  *  full texts (59 and 23 bytes), all 12 LOANS, and texts and LOANS that are undone and told again on the way. */
 public final class LongRunsTest extends Checks {
-    private static final int CALLS = 512, RANDOM_RUNS = 40;
+    private static final int CALLS = 512, RANDOM_RUNS = 100;
 
     // ---- worked out by hand
 
@@ -224,8 +224,8 @@ public final class LongRunsTest extends Checks {
 
     /** One object, whose texts are full and whose loans are twelve; what is undone is told again, or told otherwise. */
     private static final class Drawn {
-        /** More calls than any change needs that begins: a text is wiped and typed, some questions between. */
-        static final int DEAREST = 70;
+        /** More calls than questions, a text wiped and typed, and the last calls of a run take together. */
+        static final int DEAREST = 90;
         static final List<String> CHANGES = List.of("type", "wipe", "undo", "loan", "back", "read");
 
         final RandomCalls random;

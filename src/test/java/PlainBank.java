@@ -7,6 +7,8 @@ public final class PlainBank {
     private static final int NONE = -1, BAD = -2, NOT = -3, FULL = -4;
 
     private final StringBuilder[] texts = {new StringBuilder(), new StringBuilder()};
+    private final String[] split = new String[2];
+    private final String[][] words = new String[2][];
     private final List<int[]> loans = new ArrayList<>();
     private final Object[] sheets = new Object[4];
     private int ear = 2;
@@ -20,11 +22,21 @@ public final class PlainBank {
     }
 
     private String[] tunes() {
-        return fault(0) != NONE || texts[0].length() == 0 ? new String[0] : texts[0].toString().split(";");
+        return words(0);
     }
 
     private String[] borrowers() {
-        return fault(1) != NONE || texts[1].length() == 0 ? new String[0] : texts[1].toString().split(";");
+        return words(1);
+    }
+
+    /** To look for a fault takes long: it is looked for once for a text that stays. */
+    private String[] words(int text) {
+        String now = texts[text].toString();
+        if (!now.equals(split[text])) {
+            split[text] = now;
+            words[text] = fault(text) != NONE || now.isEmpty() ? new String[0] : now.split(";");
+        }
+        return words[text].clone();
     }
 
     private static String hummed(String tune, String by) {

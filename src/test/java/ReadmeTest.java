@@ -64,7 +64,9 @@ public final class ReadmeTest extends Checks {
                 if (name.endsWith("Test.java")) due(name + " is named", readme.contains(name) ? 1 : 0, 1);
             }
         }
-        for (String how : new String[] {".ci/run", "java -cp build SentencesTest", "../shared/tests/TuneLoansRuns.java"}) {
+        String[] ways = {".ci/run", "java -cp build LongRunsTest", "java -cp build SentencesTest ",
+            "../shared/tests/TuneLoansRuns.java"};
+        for (String how : ways) {
             due("how tests are run is told: " + how, readme.contains(how) ? 1 : 0, 1);
         }
     }
